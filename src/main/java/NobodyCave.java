@@ -514,7 +514,7 @@ public final class NobodyCave {
     private static final class Text {
         final char[] letters = new char[LETTERS];
         int length;
-        /** How many clauses the last reading went through. */
+        /** How many clauses the last text had in which there was no fault. */
         int clauses;
         /** The token: from its first letter to behind its last; both are the length at the end. */
         private int begin, end;
@@ -531,13 +531,12 @@ public final class NobodyCave {
         int read(Told teller) {
             end = 0;
             for (int n = 0; n < CLAUSES; n++) {
-                clauses = n;
                 if (!readClause(teller)) {
                     return begin;
                 }
-                clauses = n + 1;
                 nextToken();
                 if (begin >= length) {
+                    clauses = n + 1;
                     return NONE;
                 }
                 if (letters[begin] != ';') {

@@ -174,6 +174,8 @@ public final class DoneTest {
         Checks.due("who is under the other", x.sheep(1, 3), 1);
         Checks.due("under none", x.hide(1, Checks.NONE), 1);
         Checks.due("nobody under it", x.sheep(1, 3), Checks.NONE);
+        Checks.due("the first man", x.hide(0, 1), Checks.NONE);
+        Checks.due("the first man under none", x.hide(0, Checks.NONE), 1);
         x.day();
         Checks.refused("eaten", x, Checks.state(x), x.hide(0, 0), Checks.NOT);
         Checks.due("eaten, under none", x.hide(0, Checks.NONE), Checks.NOT);

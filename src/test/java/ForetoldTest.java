@@ -145,6 +145,11 @@ public final class ForetoldTest {
         Checks.due("fewest by three", y.feel(3, 0), 2 | 8 | 16);
         Checks.due("fewest by three: many", y.feel(3, 1), 0);
         Checks.due("fewest by four", y.feel(4, 0), 1 | 2 | 8 | 16);
+        NobodyCave z = Checks.told("man 1;man 1;man 1;man 1;man 1;man 1;ram 1;ram 1;ram 1;ram 1;ram 1;ram 1");
+        for (int k = 0; k <= 6; k++) {
+            Checks.due("all alike: feel(" + k + ", 0)", z.feel(k, 0), (1 << k) - 1);
+            Checks.due("all alike: feel(" + k + ", 1)", z.feel(k, 1), 6 - k);
+        }
         x.hide(2, 0);
         x.day();
         x.give(1);
@@ -175,6 +180,7 @@ public final class ForetoldTest {
         NobodyCave z = Checks.told("near 128;near 128;near 129;near 255");
         Checks.due("by the last name", z.names(0), 128);
         Checks.due("the last name", z.names(1), 7);
+        Checks.due("three of four come", Checks.told("near 0;near 32;near 64;near 0").names(1), 5);
         Checks.due("all are the same: all come", Checks.told("near 0;near 0").names(1), 0);
         Checks.due("no neighbours", new NobodyCave().names(0), 255);
         for (int edge : EDGES) {

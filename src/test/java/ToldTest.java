@@ -7,6 +7,9 @@ public final class ToldTest {
         write();
         erase();
         faultInWords();
+        faultInEachWord();
+        faultInFullTexts();
+        faultBehindOlderTexts();
         faultInNumbers();
         faultByRoom();
         faultByClauses();
@@ -115,6 +118,67 @@ public final class ToldTest {
         Checks.faultAt("{", 0);
         Checks.faultAt("man /", 4);
         Checks.faultAt("man :", 4);
+    }
+
+    /** Promise 4: each letter of each word counts, and so does one more. */
+    private static void faultInEachWord() {
+        for (String word : new String[] {"cave", "man", "woolly", "ram", "tied", "bell", "near", "wine", "sleep", "hard",
+            "eats"}) {
+            String behind = word.equals("cave") ? "" : " 1";
+            for (int i = 0; i < word.length(); i++) {
+                Checks.faultAt(word.substring(0, i) + "z" + word.substring(i + 1) + behind, 0);
+                Checks.faultAt(word.substring(0, i) + word.substring(i + 1) + behind, 0);
+            }
+            Checks.faultAt(word + "a" + behind, 0);
+            Checks.faultAt(word + "z" + behind, 0);
+            Checks.faultAt("z" + word + behind, 0);
+        }
+    }
+
+    /** Promise 4: texts of 160 letters, which end with any sort of token. */
+    private static void faultInFullTexts() {
+        String blanks = " ".repeat(160);
+        Checks.faultAt(blanks, 160);
+        Checks.faultAt("cave" + blanks.substring(4), Checks.NONE);
+        Checks.faultAt(blanks.substring(4) + "cave", Checks.NONE);
+        Checks.faultAt(blanks.substring(3) + "man", 160);
+        Checks.faultAt("man" + blanks.substring(3), 160);
+        Checks.faultAt(blanks.substring(5) + "man 9", Checks.NONE);
+        Checks.faultAt(blanks.substring(5) + "cave;", 160);
+        Checks.faultAt("cave;" + blanks.substring(5), 160);
+        Checks.faultAt(blanks.substring(5) + "cave.", 159);
+        Checks.faultAt("a".repeat(160), 0);
+        Checks.faultAt("man " + "0".repeat(156), 4);
+        Checks.faultAt(";".repeat(160), 0);
+    }
+
+    /** Promise 4: letters of a text that is no more do not count; to ask twice is to be answered the same. */
+    private static void faultBehindOlderTexts() {
+        NobodyCave x = new NobodyCave();
+        Checks.faultAt(x, "man 12;man 13", Checks.NONE);
+        Checks.faultAt(x, "man", 3);
+        Checks.faultAt(x, "man          ", 13);
+        Checks.faultAt(x, "man", 3);
+        Checks.faultAt(x, "mannnnnnnn", 0);
+        Checks.faultAt(x, "man 1", Checks.NONE);
+        Checks.faultAt(x, "man 11111", 4);
+        Checks.tell(x, "man 1", 1);
+        Checks.due("the number without older digits", x.man(0, 0), 1);
+        Checks.type(x, "man 1;man 1;man 1;man 1;man 1");
+        for (int n = 0; n < 3; n++) {
+            Checks.due("fault asked " + n, x.fault(), Checks.NONE);
+        }
+        Checks.due("cave", x.cave(), 5);
+        Checks.due("men", x.count(0), 6);
+        Checks.type(x, "near 1;near 1;man 1");
+        for (int n = 0; n < 3; n++) {
+            Checks.due("cave asked " + n, x.cave(), Checks.NOT);
+        }
+        x.erase();
+        Checks.type(x, "near 7;near 8;near 9;near 10");
+        Checks.due("cave of four", x.cave(), 4);
+        Checks.due("the first of them", x.near(0), 7);
+        Checks.due("how many", x.count(2), 4);
     }
 
     /** Promise 4: the bounds of each number, and its digits. */
@@ -233,6 +297,8 @@ public final class ToldTest {
         Checks.due("eaten", x.count(10), 11);
         Checks.due("gone", x.count(11), 1);
         Checks.tell(x, "man 4", 1);
+        x.give(2);
+        Checks.tell(x, "wine 9", 1);
         int[] want = {5, 2, 1, 0, 9, 0, 0, 0, 31, 0, 0, 0, 0, 0, 0};
         for (int what = 0; what < want.length; what++) {
             Checks.due("anew: count(" + what + ")", x.count(what), want[what]);
