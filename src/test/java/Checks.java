@@ -5,15 +5,42 @@ final class Checks {
 
     private static int made = 0;
     private static int wrong = 0;
+    private static int sentences = 0;
+    private static int madeBefore = 0;
+    private static String sentence = "";
 
     private Checks() {
+    }
+
+    /** Names the sentence of the document that the checks from here on are about. */
+    static void of(String words) {
+        closeSentence();
+        sentence = "\"" + words + "\": ";
+        sentences++;
+        madeBefore = made;
+    }
+
+    private static void closeSentence() {
+        if (!sentence.isEmpty() && made == madeBefore) {
+            wrong++;
+            System.out.println(sentence + "has no check");
+        }
     }
 
     static void due(String what, long got, long want) {
         made++;
         if (got != want) {
             wrong++;
-            System.out.println(what + " answered " + got + ", due is " + want);
+            System.out.println(sentence + what + " answered " + got + ", due is " + want);
+        }
+    }
+
+    /** Rows of letters that tell all that was asked must be alike. */
+    static void alike(String what, String got, String want) {
+        made++;
+        if (!got.equals(want)) {
+            wrong++;
+            System.out.println(sentence + what + " left " + got + ", due is " + want);
         }
     }
 
@@ -29,6 +56,14 @@ final class Checks {
         due("fault of '" + text + "'", x.fault(), NONE);
         due("cave of '" + text + "'", x.cave(), clauses);
         due("letters behind cave", x.count(14), 0);
+    }
+
+    /** Says a text without a look at what write() answers, where the calls of one object must stay few. */
+    static void say(NobodyCave x, String text) {
+        for (int i = 0; i < text.length(); i++) {
+            x.write(text.charAt(i));
+        }
+        due("cave of '" + text + "'", x.cave(), text.split(";").length);
     }
 
     /** A cave told by one text. */
@@ -70,12 +105,7 @@ final class Checks {
     }
 
     static void same(String what, NobodyCave x, String before) {
-        made++;
-        String after = state(x);
-        if (!after.equals(before)) {
-            wrong++;
-            System.out.println(what + " changed " + before + " into " + after);
-        }
+        alike(what, state(x), before);
     }
 
     /** A call that is refused changes nothing: the state from before it must be handed in. */
@@ -85,7 +115,9 @@ final class Checks {
     }
 
     static void end(String name) {
-        System.out.println(name + ": " + made + " checks, " + wrong + " wrong");
+        closeSentence();
+        String of = sentences == 0 ? "" : " of " + sentences + " sentences";
+        System.out.println(name + ": " + made + " checks" + of + ", " + wrong + " wrong");
         if (wrong != 0) {
             System.exit(1);
         }
