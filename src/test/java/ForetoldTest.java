@@ -131,12 +131,12 @@ public final class ForetoldTest {
         NobodyCave x = Checks.told("man 9;man 9;man 1;woolly 1;woolly 9;woolly 9;hard 1;sleep 1;eats 0");
         int[] which = {0, 1, 3, 7, 7, 7, 7};
         int[] many = {3, 2, 1, 0, 0, 0, 0};
+        String before = Checks.state(x);
         for (int k = 0; k <= 6; k++) {
-            String before = Checks.state(x);
             Checks.due("feel(" + k + ", 0)", x.feel(k, 0), which[k]);
             Checks.due("feel(" + k + ", 1)", x.feel(k, 1), many[k]);
-            Checks.same("feel", x, before);
         }
+        Checks.same("feel", x, before);
         NobodyCave y = Checks.told("man 9;man 9;woolly 1;woolly 9;woolly 2;woolly 9;woolly 9");
         Checks.due("fewest by one: the least of all alike", y.feel(1, 0), 1);
         Checks.due("fewest by one: many", y.feel(1, 1), 2);

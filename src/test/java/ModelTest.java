@@ -25,10 +25,10 @@ public final class ModelTest {
     }
 
     private static void allBoasts() {
-        NobodyCave x = new NobodyCave();
         Model y = new Model();
         for (int n = 0; n <= 4; n++) {
             for (int d = 0; d <= 20; d++) {
+                NobodyCave x = new NobodyCave();
                 for (int r = 0; r <= 5; r++) {
                     for (int b = 0; b <= 9; b++) {
                         String call = "boasts(" + n + ", " + d + ", " + r + ", " + b + ")";
@@ -121,6 +121,9 @@ public final class ModelTest {
     }
 
     private void both(int seed, int call, int a, int b, int c) {
+        if (calls == CALLS) {
+            return;
+        }
         calls++;
         String what = "seed " + seed + ", call " + calls + ": " + call + "(" + a + ", " + b + ", " + c + ")";
         Checks.due(what, told(call, a, b, c), modelled(call, a, b, c));

@@ -16,12 +16,14 @@ public final class SeenTest {
 
     /** Promise 23. */
     private static void seen() {
-        NobodyCave x = Checks.told("man 3;ram 4;ram 5");
         for (int edge : EDGES) {
-            Checks.refused("seen(" + edge + ", 0, 0)", x, Checks.state(x), x.seen(edge, 0, 0), Checks.UNKNOWN);
-            Checks.refused("seen(0, " + edge + ", 0)", x, Checks.state(x), x.seen(0, edge, 0), Checks.UNKNOWN);
-            Checks.refused("seen(0, 0, " + edge + ")", x, Checks.state(x), x.seen(0, 0, edge), Checks.OUTSIDE);
+            NobodyCave y = Checks.told("man 3;ram 4");
+            String before = Checks.state(y);
+            Checks.refused("seen(" + edge + ", 0, 0)", y, before, y.seen(edge, 0, 0), Checks.UNKNOWN);
+            Checks.refused("seen(0, " + edge + ", 0)", y, before, y.seen(0, edge, 0), Checks.UNKNOWN);
+            Checks.refused("seen(0, 0, " + edge + ")", y, before, y.seen(0, 0, edge), Checks.OUTSIDE);
         }
+        NobodyCave x = Checks.told("man 3;ram 4;ram 5");
         Checks.due("seen(1, 0, 0)", x.seen(1, 0, 0), Checks.UNKNOWN);
         Checks.due("seen(0, 2, 0)", x.seen(0, 2, 0), Checks.UNKNOWN);
         Checks.due("seen(0, 0, 2)", x.seen(0, 0, 2), Checks.OUTSIDE);

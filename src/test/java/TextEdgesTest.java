@@ -354,11 +354,10 @@ public final class TextEdgesTest {
         Checks.faultAt(SIX_MEN + ";ram 7;near 7", Checks.NONE);
         Checks.faultAt(SIX_MEN + ";cave;man 7", Checks.NONE);
         Checks.faultAt("cave;" + SIX_MEN + ";man 7", 41);
-        NobodyCave x = Checks.told(SIX_MEN);
-        Checks.faultAt(x, "man 7", 0);
-        Checks.faultAt(x, "wine 3;man 7", 7);
-        Checks.faultAt(x, "cave;man 7", Checks.NONE);
-        Checks.faultAt(x, "man 7;cave", 0);
+        Checks.faultAt(Checks.told(SIX_MEN), "man 7", 0);
+        Checks.faultAt(Checks.told(SIX_MEN), "wine 3;man 7", 7);
+        Checks.faultAt(Checks.told(SIX_MEN), "cave;man 7", Checks.NONE);
+        Checks.faultAt(Checks.told(SIX_MEN), "man 7;cave", 0);
     }
 
     private static void seventhSheep() {
